@@ -435,7 +435,7 @@ public final class GradientDeskPromises {
         checkDerivative("a*b", 1, "a");
         checkDerivative("a*a", 0, "(a+a)");
         checkDerivative("a^2", 0, "(2*a)");
-        checkDerivative("c^9^".substring(0, 2) + "5", 2, "(5*c^4)");
+        checkDerivative("c^5", 2, "(5*c^4)");
         checkDerivative("(a*b)^3", 1, "((3*(a*b)^2)*a)");
         checkDerivative("(a+a)^2", 0, "((2*(a+a))*2)");
         checkDerivative("a^2*b+3/4*c-(a-b)^3", 1, "(a^2+(-1*((3*(a+(-1*b))^2)*-1)))");
@@ -457,7 +457,7 @@ public final class GradientDeskPromises {
         dueArgument("argument before element", () -> desk.derive(5, 3, 0));
         dueArgument("argument before element", () -> desk.derive(5, 0, 8));
         dueElement("no expression", () -> desk.derive(5, 0, 0));
-        due("the order of parts", orderOfParts(), "a b (a*b) (a*b)^2 (c+(a*b)^2)".length());
+        checkOrderOfParts();
     }
 
     private static void checkDerivative(String text, int variable, String want) {
@@ -469,7 +469,7 @@ public final class GradientDeskPromises {
     }
 
     /** A derivative is made from the least part on, also of parts whose own one is not needed. */
-    private static int orderOfParts() {
+    private static void checkOrderOfParts() {
         GradientDesk desk = new GradientDesk();
         define(desk, "b+a*2", 0);
         desk.derive(0, 0, 1);
@@ -480,7 +480,6 @@ public final class GradientDeskPromises {
         due("1 for a", result(desk, 0), "1/1");
         due("2 is there", desk.made(), 7);
         due("it is 2", written(desk, 1), "2");
-        return "a b (a*b) (a*b)^2 (c+(a*b)^2)".length();
     }
 
     private static void deriveLimits() {
@@ -674,6 +673,38 @@ public final class GradientDeskPromises {
         BigInteger[] innerByB = add(mul(ratio(1, 9999), mul(v[0], v[0])), mul(ratio(2, 9997), mul(v[1], v[2])));
         due("by b", result(desk, 2), show(mul(mul(mul(ratio(2, 1), inner), innerByB), mul(outer, outer))));
         due("long enough", desk.bits(0, 1) > 280, true);
+        longest(true);
+        longest(false);
+    }
+
+    /** Eighth powers of all three variables, with a factor (or divisor) as great as the sizes leave room for. */
+    private static void longest(boolean above) {
+        GradientDesk desk = new GradientDesk();
+        desk.set(0, 9973, 9967);
+        desk.set(1, -9949, 9941);
+        desk.set(2, 9931, 9929);
+        String one = above ? "9999" : "1/9999";
+        String more = above ? "*3" : "*1/8";
+        define(desk, one + "^9*" + one + "^9*" + one + "^5" + more + "^3" + more, 0);
+        due("it fits", define(desk, "A*(a^8+b^8+c^8)", 1) >= 0, true);
+        desk.gradient(1);
+        desk.along(1, 999, -999, 999);
+        desk.number(define(desk, "A", 0), 7);
+        BigInteger[] factor = {side(desk, 7, 0), side(desk, 7, 1)};
+        BigInteger[][] v = {ratio(9973, 9967), ratio(-9949, 9941), ratio(9931, 9929)};
+        BigInteger[] sum = ratio(0, 1);
+        BigInteger[] slope = ratio(0, 1);
+        for (int i = 0; i < 3; i++) {
+            BigInteger[] seventh = {v[i][0].pow(7), v[i][1].pow(7)};
+            BigInteger[] by = mul(factor, mul(ratio(8, 1), seventh));
+            due("by a variable", result(desk, 1 + i), show(by));
+            sum = add(sum, mul(seventh, v[i]));
+            slope = add(slope, mul(by, ratio(i == 1 ? -999 : 999, 1)));
+        }
+        due("value", result(desk, 0), show(mul(factor, sum)));
+        due("value along", result(desk, 4), show(mul(factor, sum)));
+        due("slope along", result(desk, 5), show(slope));
+        due("long enough", desk.bits(0, above ? 0 : 1) > 625, true);
     }
 
     private static BigInteger[] ratio(long p, long q) {
@@ -880,7 +911,7 @@ public final class GradientDeskPromises {
     private static void write() {
         promise = "19";
         String[][] pairs = {{"a", "a"}, {"b+c", "(b+c)"}, {"b*c", "(b*c)"}, {"a^2", "a^2"}, {"(a^2)^3", "a^2^3"},
-            {"(a+b)^9^".substring(0, 6) + "4", "(a+b)^4"}, {"-5", "-5"}, {"-5/10", "-1/2"}, {"a-b", "(a+(-1*b))"},
+            {"(a+b)^4", "(a+b)^4"}, {"-5", "-5"}, {"-5/10", "-1/2"}, {"a-b", "(a+(-1*b))"},
             {"a*-3/7", "(a*-3/7)"}, {"0", "0"}, {"10*100", "1000"}, {"1000*1000*1000", "1000000000"},
             {"1000*1000*1000*1000*1000*1000", "1000000000000000000"}, {"9999^9", BigInteger.valueOf(9999).pow(9).toString()},
             {"1/9999^9", "1/" + BigInteger.valueOf(9999).pow(9)}, {"a+b+c", "((a+b)+c)"}, {"a+(b+c)", "(a+(b+c))"},
