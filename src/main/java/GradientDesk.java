@@ -99,10 +99,16 @@ public final class GradientDesk {
     public int define(int name) throws IllegalArgumentException {
         checkName(name);
         wrongPlace = text.findWrongPlace();
-        int answer = wrongPlace == NOTHING ? makeText() : SYNTAX;
+        int before = shelf.count;
+        int answer = SYNTAX;
+        if (wrongPlace == NOTHING) {
+            answer = reader.arrange(names) ? reader.make() : UNKNOWN;
+        }
         text.length = 0;
         if (answer >= 0) {
             names[name] = answer;
+        } else {
+            shelf.count = before;
         }
         return answer;
     }
@@ -312,19 +318,6 @@ public final class GradientDesk {
         }
     }
 
-    private int makeText() {
-        if (!reader.knowsAllNames(names)) {
-            return UNKNOWN;
-        }
-        reader.arrange(names);
-        int before = shelf.count;
-        int answer = reader.make();
-        if (answer < 0) {
-            shelf.count = before;
-        }
-        return answer;
-    }
-
     private void reckonValue(int expression, int r) {
         course.goTo(pointTops, pointBottoms);
         course.followValues(expression);
@@ -435,7 +428,7 @@ public final class GradientDesk {
 
         /** This becomes x times y; it is neither of them. */
         void multiply(Whole x, Whole y) {
-            int room = Math.min(words.length, x.size + y.size);
+            int room = x.size == 0 || y.size == 0 ? 0 : Math.min(words.length, x.size + y.size);
             Arrays.fill(words, 0, room, 0);
             for (int i = 0; i < x.size && i < room; i++) {
                 long factor = x.words[i] & WORD_MASK;
@@ -449,7 +442,7 @@ public final class GradientDesk {
                     words[i + y.size] = (int) carry;
                 }
             }
-            trim(room);
+            size = room > 0 && words[room - 1] == 0 ? room - 1 : room;
             below = size > 0 && x.below != y.below;
         }
 
@@ -479,7 +472,7 @@ public final class GradientDesk {
                 words[i] = (int) carry;
                 carry >>>= WORD_BITS;
             }
-            trim(room);
+            size = room > 0 && words[room - 1] == 0 ? room - 1 : room;
         }
 
         /** The size of this becomes that of x less that of y, which is no greater; it may be one of them. */
@@ -492,7 +485,10 @@ public final class GradientDesk {
                 words[i] = (int) digit;
                 borrow = digit < 0 ? 1 : 0;
             }
-            trim(room);
+            size = room;
+            while (size > 0 && words[size - 1] == 0) {
+                size--;
+            }
         }
 
         void shiftDown(int places) {
@@ -504,7 +500,7 @@ public final class GradientDesk {
                 boolean more = rest > 0 && i + skip + 1 < size;
                 words[i] = more ? low | words[i + skip + 1] << (WORD_BITS - rest) : low;
             }
-            trim(left);
+            size = left > 0 && words[left - 1] == 0 ? left - 1 : left;
         }
 
         /** Divides by an odd divisor that leaves no rest, from the lowest word on, as no guess is needed there. */
@@ -519,7 +515,7 @@ public final class GradientDesk {
                 takeMultiple(digit & WORD_MASK, divisor, i, room);
                 words[i] = digit;
             }
-            trim(room);
+            size = room > 0 && words[room - 1] == 0 ? room - 1 : room;
         }
 
         private void takeMultiple(long factor, Whole y, int from, int room) {
@@ -552,15 +548,8 @@ public final class GradientDesk {
                 words[i] = (int) (whole / BILLION);
                 rest = whole % BILLION;
             }
-            trim(size);
+            size = size > 0 && words[size - 1] == 0 ? size - 1 : size;
             return (int) rest;
-        }
-
-        private void trim(int used) {
-            size = used;
-            while (size > 0 && words[size - 1] == 0) {
-                size--;
-            }
         }
     }
 
@@ -822,6 +811,11 @@ public final class GradientDesk {
             }
         }
 
+        int makeWhole(int number) {
+            work.becomeRatio(number, 1);
+            return keepNumber();
+        }
+
         int makeRatio(int p, int q) {
             work.becomeRatio(p, q);
             arithmetic.reduce(work);
@@ -879,7 +873,7 @@ public final class GradientDesk {
                 return x;
             }
             if (exponent == 0) {
-                return makeRatio(1, 1);
+                return makeWhole(1);
             }
             Part base = parts[x];
             if (base.sort == NUMBER) {
@@ -893,7 +887,7 @@ public final class GradientDesk {
             if (x < 0) {
                 return x;
             }
-            return makeProduct(makeRatio(-1, 1), x);
+            return makeProduct(makeWhole(-1), x);
         }
 
         /** A power of a fraction needs no reducing, and its bits never shrink: it stops when they are too many. */
@@ -934,7 +928,8 @@ public final class GradientDesk {
             }
             int at = lay(NUMBER, NOTHING, NOTHING, 0, sizeN, sizeD);
             if (at >= 0) {
-                parts[at].number.become(work);
+                parts[at].number.top.become(work.top);
+                parts[at].number.bottom.become(work.bottom);
             }
             return at;
         }
@@ -1005,7 +1000,7 @@ public final class GradientDesk {
                 } else if (of.sort == POWER) {
                     slopes[i] = makePowerSlope(of.first, of.second);
                 } else {
-                    slopes[i] = makeRatio(of.sort == VARIABLE && of.first == variable ? 1 : 0, 1);
+                    slopes[i] = makeWhole(of.sort == VARIABLE && of.first == variable ? 1 : 0);
                 }
                 if (slopes[i] < 0) {
                     return slopes[i];
@@ -1024,7 +1019,7 @@ public final class GradientDesk {
         }
 
         private int makePowerSlope(int x, int exponent) {
-            int factor = makeRatio(exponent, 1);
+            int factor = makeWhole(exponent);
             if (factor < 0) {
                 return factor;
             }
@@ -1040,6 +1035,8 @@ public final class GradientDesk {
     private static final class Reader {
         private static final int NAMED = 5;
         private static final int NEGATIVE = 6;
+        private static final int LEVEL_OF_SUMS = 1;
+        /** Stands for a - of a factor among the open operators; the grammar has no such character. */
         private static final char FACTOR_MINUS = '~';
         /** A character stands for at most two steps: an operator - for a NEGATIVE and a SUM. */
         private static final int MOST_STEPS = 2 * MOST_LETTERS;
@@ -1060,21 +1057,13 @@ public final class GradientDesk {
             this.shelf = shelf;
         }
 
-        boolean knowsAllNames(int[] names) {
-            for (int i = 0; i < text.length; i++) {
-                char letter = text.at(i);
-                if (Text.isName(letter) && names[letter - 'A'] == NOTHING) {
-                    return false;
-                }
-            }
-            return true;
-        }
-
-        void arrange(int[] names) {
+        /** Answers whether all names in the text have an expression. */
+        boolean arrange(int[] names) {
             operatorCount = 0;
             stepCount = 0;
             cursor = 0;
             boolean awaited = true;
+            boolean known = true;
             for (int i = 0; i < MOST_LETTERS && cursor < text.length; i++) {
                 char letter = text.at(cursor);
                 if (letter == '(') {
@@ -1086,12 +1075,14 @@ public final class GradientDesk {
                     open(letter);
                     awaited = true;
                 } else {
+                    known &= !Text.isName(letter) || names[letter - 'A'] != NOTHING;
                     readAtom(letter, names);
                     readExponent();
                     awaited = false;
                 }
             }
-            settle(1);
+            settle(LEVEL_OF_SUMS);
+            return known;
         }
 
         int make() {
@@ -1143,12 +1134,12 @@ public final class GradientDesk {
 
         private static int levelOf(char operator) {
             if (operator == FACTOR_MINUS) {
-                return 3;
+                return LEVEL_OF_SUMS + 2;
             }
             if (operator == '*') {
-                return 2;
+                return LEVEL_OF_SUMS + 1;
             }
-            return operator == '(' ? 0 : 1;
+            return operator == '(' ? LEVEL_OF_SUMS - 1 : LEVEL_OF_SUMS;
         }
 
         private void open(char operator) {
@@ -1191,7 +1182,7 @@ public final class GradientDesk {
             }
             cursor++;
             if (letter == ')') {
-                settle(1);
+                settle(LEVEL_OF_SUMS);
                 operatorCount = Math.max(operatorCount - 1, 0);
             } else if (Text.isName(letter)) {
                 addStep(NAMED, names[letter - 'A'], NOTHING);
