@@ -192,6 +192,8 @@ public final class GradientDeskPromises {
         desk.define(0);
         due("the place of the blank", desk.place(), 11);
         GradientDesk full = new GradientDesk();
+        due("a good text of 64", define(full, "-a" + "+a".repeat(31), 0), 33);
+        due("all of it is read", full.parts(0), 34);
         due("a text of 64", define(full, "a" + "+a".repeat(31) + "*", 0), SYNTAX);
         due("its place", full.place(), 64);
     }
@@ -311,6 +313,12 @@ public final class GradientDeskPromises {
         due("1 / 2^400", define(desk, "F*1/2", 4), LARGE);
         due("back to short numbers", define(desk, "D*F", 4) >= 0, true);
         due("is 1", written(desk, 4), "1");
+        due("a power of 400 bits", define(desk, "((2^9)^6*2^3)^7", 4) >= 0, true);
+        due("is 2^399", define(desk, "E-D", 4), define(desk, "0", 4));
+        due("a power with 400 bits of q", define(desk, "((1/2^9)^6*1/8)^7", 4), define(desk, "F", 4));
+        due("a power of 401 bits", define(desk, "((2^8)^5)^5*(2^8)^5*(2^8)^5*(2^8)^5*(2^8)^5*(2^8)^5", 4), LARGE);
+        due("a power of 401 bits", define(desk, "((2^8)^5*(2^8)^5)^5", 4), LARGE);
+        due("a power with 401 bits of q", define(desk, "((1/2^8)^5*(1/2^8)^5)^5", 4), LARGE);
         due("a sum of numbers is reduced before it is measured", define(desk, "F-F+1", 4), define(desk, "1", 4));
         sizeLimits();
     }
@@ -835,6 +843,14 @@ public final class GradientDeskPromises {
         due("one too many", edge.reckon(0, 6, 5, 3), false);
         due("one too many", edge.reckon(0, 6, 3, 5), false);
         due("nothing changed", edge.bits(6, 0), 0);
+        putResult(edge, "1/2^9", 0);
+        putResult(edge, "1", 6);
+        for (int i = 0; i < 111; i++) {
+            edge.reckon(2, 6, 6, 0);
+        }
+        due("2^-999 has 1,000 bits of q", edge.bits(6, 1), 1000);
+        due("it is reckoned with", edge.reckon(2, 6, 6, 1), true);
+        due("1", result(edge, 6), "1/1");
         due("compare", edge.compare(4, 5) + " " + edge.compare(5, 4) + " " + edge.compare(4, 4), "1 -1 0");
     }
 
