@@ -1,20 +1,7 @@
 import java.math.BigInteger;
-import java.util.NoSuchElementException;
 
 /** Each promise of the document by itself: ordinary inputs, the edges that it names, and wrong inputs. */
-public final class GradientDeskPromises {
-    private static int wrong = 0;
-    private static String promise = "";
-
-    private static final int SYNTAX = GradientDesk.SYNTAX;
-    private static final int UNKNOWN = GradientDesk.UNKNOWN;
-    private static final int LARGE = GradientDesk.LARGE;
-    private static final int FULL = GradientDesk.FULL;
-
-    private interface Call {
-        void run();
-    }
-
+public final class GradientDeskPromises extends Bench {
     public static void main(String[] args) {
         constants();
         newObject();
@@ -43,96 +30,7 @@ public final class GradientDeskPromises {
         word();
         write();
         written();
-        System.out.println(wrong == 0 ? "all promises are kept" : wrong + " answers are not as due");
-        if (wrong != 0) {
-            System.exit(1);
-        }
-    }
-
-    // ---- helpers
-
-    private static void due(String what, Object got, Object want) {
-        if (!got.equals(want)) {
-            wrong++;
-            System.out.println("promise " + promise + ": " + what + " answered " + got + ", due is " + want);
-        }
-    }
-
-    private static void dueThrow(String what, Class<? extends RuntimeException> want, Call call) {
-        String got = "nothing";
-        try {
-            call.run();
-        } catch (RuntimeException e) {
-            got = e.getClass().getSimpleName();
-        }
-        due(what + " throws", got, want.getSimpleName());
-    }
-
-    private static void dueIndex(String what, Call call) {
-        dueThrow(what, IndexOutOfBoundsException.class, call);
-    }
-
-    private static void dueArgument(String what, Call call) {
-        dueThrow(what, IllegalArgumentException.class, call);
-    }
-
-    private static void dueElement(String what, Call call) {
-        dueThrow(what, NoSuchElementException.class, call);
-    }
-
-    private static void typeAll(GradientDesk desk, String text) {
-        for (int from = 0; from < text.length(); from += 8) {
-            String piece = text.substring(from, Math.min(text.length(), from + 8));
-            desk.type(packed(piece), piece.length());
-        }
-    }
-
-    private static long packed(String piece) {
-        long w = 0;
-        for (int i = 0; i < piece.length(); i++) {
-            w |= (long) piece.charAt(i) << (8 * i);
-        }
-        return w;
-    }
-
-    private static int define(GradientDesk desk, String text, int name) {
-        typeAll(desk, text);
-        return desk.define(name);
-    }
-
-    private static String written(GradientDesk desk, int name) {
-        int length = desk.write(name);
-        if (length < 0) {
-            return "answer " + length;
-        }
-        StringBuilder all = new StringBuilder();
-        for (int i = 0; i < length; i++) {
-            all.append((char) desk.written(i));
-        }
-        dueIndex("written behind the end", () -> desk.written(length));
-        return all.toString();
-    }
-
-    private static BigInteger side(GradientDesk desk, int r, int which) {
-        BigInteger all = BigInteger.ZERO;
-        for (int i = 63; i >= 0; i--) {
-            all = all.shiftLeft(32).add(BigInteger.valueOf(desk.word(r, which, i) & 0xffffffffL));
-        }
-        due("bits(" + r + ", " + which + ")", desk.bits(r, which), all.bitLength());
-        return all;
-    }
-
-    private static String result(GradientDesk desk, int r) {
-        BigInteger p = side(desk, r, 0);
-        return (desk.sign(r) < 0 ? p.negate() : p) + "/" + side(desk, r, 1);
-    }
-
-    private static String look(GradientDesk desk, int i) {
-        StringBuilder all = new StringBuilder();
-        for (int what = 0; what <= 5; what++) {
-            all.append(what == 0 ? "" : " ").append(desk.part(i, what));
-        }
-        return all.toString();
+        end("all promises are kept");
     }
 
     private static int placeOf(String text) {
@@ -145,7 +43,7 @@ public final class GradientDeskPromises {
     // ---- the promises
 
     private static void constants() {
-        promise = "constants";
+        about("constants");
         due("SYNTAX", SYNTAX, -1);
         due("UNKNOWN", UNKNOWN, -2);
         due("LARGE", LARGE, -3);
@@ -153,7 +51,7 @@ public final class GradientDeskPromises {
     }
 
     private static void newObject() {
-        promise = "1";
+        about("1");
         GradientDesk desk = new GradientDesk();
         due("made", desk.made(), 0);
         due("place", desk.place(), -1);
@@ -168,7 +66,7 @@ public final class GradientDeskPromises {
     }
 
     private static void type() {
-        promise = "2";
+        about("2");
         GradientDesk desk = new GradientDesk();
         due("eight", desk.type(packed("(a+b)*(c"), 8), 8);
         due("the bytes behind n do not count", desk.type(packed("-1)") | 0xff00L << 24, 3), 11);
@@ -185,10 +83,10 @@ public final class GradientDeskPromises {
             desk.type(packed("aaaaaaaa"), 8);
         }
         due("63 characters", desk.type('a', 1), 62);
-        dueThrow("three more", IllegalStateException.class, () -> desk.type(packed("aaa"), 3));
+        dueState("three more", () -> desk.type(packed("aaa"), 3));
         dueArgument("a wrong character comes first", () -> desk.type(packed("aa") | 1 << 16, 3));
         due("64 characters", desk.type(packed("aa"), 2), 64);
-        dueThrow("one more", IllegalStateException.class, () -> desk.type('a', 1));
+        dueState("one more", () -> desk.type('a', 1));
         desk.define(0);
         due("the place of the blank", desk.place(), 11);
         GradientDesk full = new GradientDesk();
@@ -199,7 +97,7 @@ public final class GradientDeskPromises {
     }
 
     private static void define() {
-        promise = "3";
+        about("3");
         GradientDesk desk = new GradientDesk();
         due("a", define(desk, "a", 0), 0);
         due("the text is empty", desk.define(0), SYNTAX);
@@ -225,7 +123,7 @@ public final class GradientDeskPromises {
     }
 
     private static void sharing() {
-        promise = "3 (parts are there once)";
+        about("3 (parts are there once)");
         GradientDesk desk = new GradientDesk();
         due("a+b", define(desk, "a+b", 0), 2);
         due("a+b again", define(desk, "((a)+(b))", 1), 2);
@@ -243,7 +141,7 @@ public final class GradientDeskPromises {
     }
 
     private static void making() {
-        promise = "3 (how parts are made)";
+        about("3 (how parts are made)");
         checkMade("a+b*c", "1 0 -1 1 1 0", "1 1 -1 1 1 0", "1 2 -1 1 1 0", "3 1 2 2 10 0", "2 0 3 2 11 0");
         checkMade("a-b", "1 0 -1 1 1 0", "1 1 -1 1 1 0", "0 -1 -1 0 1 0", "3 2 1 1 10 0", "2 0 3 1 11 0");
         checkMade("--a^2", "1 0 -1 1 1 0", "4 0 2 2 18 0", "0 -1 -1 0 1 0", "3 2 1 2 27 0", "3 2 3 2 36 0");
@@ -284,7 +182,7 @@ public final class GradientDeskPromises {
     }
 
     private static void limits() {
-        promise = "3 (limits)";
+        about("3 (limits)");
         GradientDesk desk = new GradientDesk();
         due("DEGREE 8", define(desk, "a^8", 0), 1);
         due("DEGREE 9", define(desk, "a^9", 1), LARGE);
@@ -354,7 +252,7 @@ public final class GradientDeskPromises {
     }
 
     private static void tooMany() {
-        promise = "3 (too many)";
+        about("3 (too many)");
         GradientDesk desk = new GradientDesk();
         fillTo(desk, 199);
         due("199", desk.made(), 199);
@@ -364,35 +262,16 @@ public final class GradientDeskPromises {
         due("200", desk.made(), 200);
         due("one too many", define(desk, "9997", 2), FULL);
         due("what is there can be made", define(desk, "9998", 2), 199);
-        due("a sum that is there", define(desk, "a+1", 3), define(desk, "(a+1)", 4));
+        due("a sum that is there", define(desk, "a+a", 3), 1);
         due("LARGE comes before FULL", define(desk, "a^9", 5), LARGE);
         due("but not a part that is FULL before", define(desk, "c*c+a^9", 5), FULL);
-        due("a number that is LARGE comes before FULL", define(desk, "(((9998^1)^1))^9", 5), FULL);
+        due("a number that is one too many", define(desk, "9998^9", 5), FULL);
         due("200", desk.made(), 200);
         dueElement("no name", () -> desk.parts(5));
     }
 
-    /** Makes a, 1, a+1, and then numbers and sums until there are that many parts. */
-    private static void fillTo(GradientDesk desk, int many) {
-        define(desk, "a+1", 0);
-        int next = 2;
-        while (desk.made() < many) {
-            int left = many - desk.made();
-            StringBuilder text = new StringBuilder("0*a");
-            if (desk.made() == 3) {
-                text = new StringBuilder("0");
-                left = 1;
-            }
-            for (int i = 0; i < Math.min(left, 9) && desk.made() > 3; i++) {
-                text.append("+0*").append(next++);
-            }
-            define(desk, text.toString(), 0);
-        }
-        define(desk, "a+1", 0);
-    }
-
     private static void place() {
-        promise = "4";
+        about("4");
         String[] texts = {"", "a+", "a+*b", "12345", "1/0", "1/00", "1/000", "1/0000", "1/0+", "1/00001", "1/12345", "1/",
             "1/a", "1//2", "1/2/3", "a/2", "A/2", "(1)/2", "a^", "a^a", "a^12", "a^2^2", "a^-1", "2^2a", "(", "((", "()",
             "(a", "(a))", ")", "a)", "d", "I", "@", "`", "a b", " a", "a ", "ab", "aA", "2a", "a2", "(a)(b)", "a(b)", "+a",
@@ -434,7 +313,7 @@ public final class GradientDeskPromises {
     }
 
     private static void derive() {
-        promise = "5";
+        about("5");
         checkDerivative("7/3", 0, "0");
         checkDerivative("a", 0, "1");
         checkDerivative("a", 1, "0");
@@ -491,7 +370,7 @@ public final class GradientDeskPromises {
     }
 
     private static void deriveLimits() {
-        promise = "5 (limits)";
+        about("5 (limits)");
         GradientDesk desk = new GradientDesk();
         define(desk, "9999^9*9999^9*a", 0);
         define(desk, "A*(b+9999^9)", 1);
@@ -514,7 +393,7 @@ public final class GradientDeskPromises {
     }
 
     private static void made() {
-        promise = "6";
+        about("6");
         GradientDesk desk = new GradientDesk();
         define(desk, "a", 0);
         due("1", desk.made(), 1);
@@ -525,7 +404,7 @@ public final class GradientDeskPromises {
     }
 
     private static void parts() {
-        promise = "7";
+        about("7");
         GradientDesk desk = new GradientDesk();
         define(desk, "a*b+a*b", 0);
         due("each once", desk.parts(0), 4);
@@ -543,7 +422,7 @@ public final class GradientDeskPromises {
     }
 
     private static void part() {
-        promise = "8";
+        about("8");
         GradientDesk desk = new GradientDesk();
         define(desk, "b*-3/5+c^4", 0);
         due("variable", look(desk, 0), "1 1 -1 1 1 0");
@@ -562,7 +441,7 @@ public final class GradientDeskPromises {
     }
 
     private static void number() {
-        promise = "9";
+        about("9");
         GradientDesk desk = new GradientDesk();
         define(desk, "a-7/14", 0);
         due("no number", desk.number(0, 3), false);
@@ -582,7 +461,7 @@ public final class GradientDeskPromises {
     }
 
     private static void clear() {
-        promise = "10";
+        about("10");
         GradientDesk desk = new GradientDesk();
         define(desk, "a+1/2", 0);
         desk.set(0, 1, 3);
@@ -606,7 +485,7 @@ public final class GradientDeskPromises {
     }
 
     private static void set() {
-        promise = "11";
+        about("11");
         GradientDesk desk = new GradientDesk();
         define(desk, "a+100*b+c", 0);
         desk.gradient(0);
@@ -632,7 +511,7 @@ public final class GradientDeskPromises {
     }
 
     private static void gradient() {
-        promise = "12";
+        about("12");
         GradientDesk desk = new GradientDesk();
         define(desk, "a^2*b+3/4*c-(a-b)^3", 0);
         desk.set(0, 1, 2);
@@ -715,29 +594,8 @@ public final class GradientDeskPromises {
         due("long enough", desk.bits(0, above ? 0 : 1) > 625, true);
     }
 
-    private static BigInteger[] ratio(long p, long q) {
-        return reduced(BigInteger.valueOf(p), BigInteger.valueOf(q));
-    }
-
-    private static BigInteger[] reduced(BigInteger p, BigInteger q) {
-        BigInteger common = p.gcd(q);
-        return new BigInteger[] {p.divide(common), q.divide(common)};
-    }
-
-    private static BigInteger[] add(BigInteger[] x, BigInteger[] y) {
-        return reduced(x[0].multiply(y[1]).add(y[0].multiply(x[1])), x[1].multiply(y[1]));
-    }
-
-    private static BigInteger[] mul(BigInteger[] x, BigInteger[] y) {
-        return reduced(x[0].multiply(y[0]), x[1].multiply(y[1]));
-    }
-
-    private static String show(BigInteger[] x) {
-        return x[0] + "/" + x[1];
-    }
-
     private static void along() {
-        promise = "13";
+        about("13");
         GradientDesk desk = new GradientDesk();
         define(desk, "a^2*b+3/4*c-(a-b)^3", 0);
         desk.set(0, 1, 2);
@@ -762,13 +620,8 @@ public final class GradientDeskPromises {
         dueElement("no expression", () -> desk.along(7, 0, 0, 0));
     }
 
-    /** Puts p / q into a RESULT by way of an expression of its own. */
-    private static void putResult(GradientDesk desk, String text, int r) {
-        due(text + " is a number", desk.number(define(desk, text, 7), r), true);
-    }
-
     private static void reckon() {
-        promise = "14";
+        about("14");
         GradientDesk desk = new GradientDesk();
         putResult(desk, "1/6", 1);
         putResult(desk, "-3/10", 2);
@@ -797,7 +650,7 @@ public final class GradientDeskPromises {
 
     /** RESULTS i and j may have 1,000 bits and no more; what comes of them may have twice as many. */
     private static void reckonLong() {
-        promise = "14 (long numbers)";
+        about("14 (long numbers)");
         GradientDesk desk = new GradientDesk();
         putResult(desk, "2^9*2", 0);
         putResult(desk, "1/2^9*1/2", 1);
@@ -855,7 +708,7 @@ public final class GradientDeskPromises {
     }
 
     private static void compare() {
-        promise = "15";
+        about("15");
         GradientDesk desk = new GradientDesk();
         String[] rising = {"-9999/2", "-1/2", "-1/3", "0", "9998/9999", "1", "9999/9998", "2^9"};
         for (int i = 0; i < 8; i++) {
@@ -873,7 +726,7 @@ public final class GradientDeskPromises {
     }
 
     private static void sign() {
-        promise = "16";
+        about("16");
         GradientDesk desk = new GradientDesk();
         putResult(desk, "-1/9", 1);
         putResult(desk, "1/9", 2);
@@ -885,7 +738,7 @@ public final class GradientDeskPromises {
     }
 
     private static void bits() {
-        promise = "17";
+        about("17");
         GradientDesk desk = new GradientDesk();
         putResult(desk, "-8/7", 1);
         due("p", desk.bits(1, 0), 4);
@@ -904,7 +757,7 @@ public final class GradientDeskPromises {
     }
 
     private static void word() {
-        promise = "18";
+        about("18");
         GradientDesk desk = new GradientDesk();
         putResult(desk, "-(2^8)^4+1", 1);
         due("a full word", desk.word(1, 0, 0), -1);
@@ -925,7 +778,7 @@ public final class GradientDeskPromises {
     }
 
     private static void write() {
-        promise = "19";
+        about("19");
         String[][] pairs = {{"a", "a"}, {"b+c", "(b+c)"}, {"b*c", "(b*c)"}, {"a^2", "a^2"}, {"(a^2)^3", "a^2^3"},
             {"(a+b)^4", "(a+b)^4"}, {"-5", "-5"}, {"-5/10", "-1/2"}, {"a-b", "(a+(-1*b))"},
             {"a*-3/7", "(a*-3/7)"}, {"0", "0"}, {"10*100", "1000"}, {"1000*1000*1000", "1000000000"},
@@ -965,7 +818,7 @@ public final class GradientDeskPromises {
     }
 
     private static void written() {
-        promise = "20";
+        about("20");
         GradientDesk desk = new GradientDesk();
         dueIndex("nothing yet", () -> desk.written(0));
         define(desk, "a-1/2", 0);
