@@ -137,6 +137,16 @@ class Bench {
         return all.toString();
     }
 
+    /** A text on a new desk makes just these parts, each as look tells it. */
+    static void checkParts(String text, String... parts) {
+        GradientDesk desk = new GradientDesk();
+        define(desk, text, 0);
+        due("made by " + text, desk.made(), parts.length);
+        for (int i = 0; i < Math.min(parts.length, desk.made()); i++) {
+            due("part " + i + " of " + text, look(desk, i), parts[i]);
+        }
+    }
+
     /** Puts a number into a RESULT by way of an expression with the name H. */
     static void putResult(GradientDesk desk, String text, int r) {
         due(text + " is a number", desk.number(define(desk, text, 7), r), true);

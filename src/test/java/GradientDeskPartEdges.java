@@ -32,6 +32,7 @@ public final class GradientDeskPartEdges extends Bench {
         deriveAtTheLastRoom();
         deriveLarge();
         deriveLargeBeforeFull();
+        deriveBesidePartZero();
         madeAndParts();
         partIndices();
         numberIndices();
@@ -97,6 +98,11 @@ public final class GradientDeskPartEdges extends Bench {
         due("only 1/6 is new", desk.made(), 16);
         due("0", define(desk, "0", 0), 16);
         due("0 in another way", define(desk, "0/9-0", 0), 16);
+        GradientDesk zero = new GradientDesk();
+        define(zero, "0", 0);
+        for (String text : new String[] {"1-1", "-1+1", "-1/3+1/3", "1/3-1/3", "-0", "0*-1", "-1*0", "0-0", "-0-0", "(-0)^3", "-(1-1)"}) {
+            due("0 is one part, as " + text, define(zero, text, 1), 0);
+        }
     }
 
     private static void sumsWithZero() {
@@ -165,15 +171,6 @@ public final class GradientDeskPartEdges extends Bench {
         GradientDesk desk = new GradientDesk();
         due("-0 is the 0 that is there", define(desk, "-0", 0), 0);
         due("--2 is the 2 that is there", define(desk, "--2", 0), 2);
-    }
-
-    private static void checkParts(String text, String... parts) {
-        GradientDesk desk = new GradientDesk();
-        define(desk, text, 0);
-        due("made by " + text, desk.made(), parts.length);
-        for (int i = 0; i < Math.min(parts.length, desk.made()); i++) {
-            due("part " + i + " of " + text, look(desk, i), parts[i]);
-        }
     }
 
     private static void orderOfMaking() {
@@ -253,6 +250,10 @@ public final class GradientDeskPartEdges extends Bench {
         refused(desk, "D-1", LARGE);
         refused(desk, "-A-A", LARGE);
         due("back from the edge", define(desk, "C-C", 4), define(desk, "0", 5));
+        for (int n = 2; n <= 9; n++) {
+            refused(desk, "A^" + n, LARGE);
+            refused(desk, "D^" + n, LARGE);
+        }
     }
 
     private static void denominatorsOf400Bits() {
@@ -269,6 +270,10 @@ public final class GradientDeskPartEdges extends Bench {
         due("1 + 2^-399 has 400 bits of both", look(desk, define(desk, "1+A", 2)), "0 -1 -1 0 400 400");
         due("2 - 2^-399 too", look(desk, define(desk, "2-A", 3)), "0 -1 -1 0 400 400");
         refused(desk, "2+A", LARGE);
+        for (int n = 2; n <= 9; n++) {
+            refused(desk, "A^" + n, LARGE);
+            refused(desk, "C^" + n, LARGE);
+        }
     }
 
     private static void numbersAreMeasuredReduced() {
@@ -566,6 +571,33 @@ public final class GradientDeskPartEdges extends Bench {
         dueElement("no name", () -> ready.parts(3));
     }
 
+    /** Part 0 is a part like any other: what stands beside it and can't be made is not lost. */
+    private static void deriveBesidePartZero() {
+        about("5: LARGE and FULL beside part 0");
+        GradientDesk full = new GradientDesk();
+        define(full, "0", 0);
+        define(full, "b*a^2", 1);
+        define(full, "1*(2*a)", 2);
+        fillTo(full, 200);
+        due("0 * a^2 is part 0, b * (2*a) is one too many", full.derive(1, 0, 3), FULL);
+        due("made", full.made(), 200);
+        GradientDesk power = new GradientDesk();
+        define(power, "3", 0);
+        define(power, "(a+b)^3", 1);
+        define(power, "0*1", 2);
+        fillTo(power, 200);
+        due("3 is part 0, (a+b)^2 is one too many", power.derive(1, 0, 3), FULL);
+        due("made", power.made(), 200);
+        GradientDesk large = new GradientDesk();
+        define(large, "0", 0);
+        define(large, halfTo(49), 1);
+        define(large, "(a*B)*(a*B)", 2);
+        define(large, "(b*(" + halfTo(250) + "))*C", 3);
+        int before = large.made();
+        due("0 * C is part 0, a d of 451 can't be", large.derive(3, 0, 4), LARGE);
+        due("made", large.made(), before);
+    }
+
     // ---- promises 6 to 10
 
     private static void madeAndParts() {
@@ -683,7 +715,12 @@ public final class GradientDeskPartEdges extends Bench {
         due("RESULTS", results(desk, 0, 7), "1/2 1/3 1/4 1/5 1/6 1/7 1/8 1/9");
         due("the text", desk.type('c', 1), 5);
         due("its parts begin at 0", desk.define(0), 4);
-        desk.along(0, 1, 0, 0);
+        desk.along(0, 1, 2, 3);
         due("the POINT", result(desk, 4), "-16/15");
+        desk.clear();
+        define(desk, "7", 0);
+        desk.gradient(0);
+        desk.along(0, 1, 2, 3);
+        due("nothing of the parts that were there is left", results(desk, 0, 5), "7/1 0/1 0/1 0/1 7/1 0/1");
     }
 }

@@ -142,43 +142,34 @@ public final class GradientDeskPromises extends Bench {
 
     private static void making() {
         about("3 (how parts are made)");
-        checkMade("a+b*c", "1 0 -1 1 1 0", "1 1 -1 1 1 0", "1 2 -1 1 1 0", "3 1 2 2 10 0", "2 0 3 2 11 0");
-        checkMade("a-b", "1 0 -1 1 1 0", "1 1 -1 1 1 0", "0 -1 -1 0 1 0", "3 2 1 1 10 0", "2 0 3 1 11 0");
-        checkMade("--a^2", "1 0 -1 1 1 0", "4 0 2 2 18 0", "0 -1 -1 0 1 0", "3 2 1 2 27 0", "3 2 3 2 36 0");
-        checkMade("-2*a", "0 -1 -1 0 2 0", "0 -1 -1 0 1 0", "0 -1 -1 0 2 0", "1 0 -1 1 1 0", "3 2 3 1 11 0");
-        checkMade("2^3", "0 -1 -1 0 2 0", "0 -1 -1 0 4 0");
-        checkMade("3/4^2", "0 -1 -1 0 2 3", "0 -1 -1 0 4 5");
-        checkMade("1/2+1/2", "0 -1 -1 0 1 2", "0 -1 -1 0 1 0");
-        checkMade("2*1/2", "0 -1 -1 0 2 0", "0 -1 -1 0 1 2", "0 -1 -1 0 1 0");
-        checkMade("0+a", "0 -1 -1 0 1 0", "1 0 -1 1 1 0");
-        checkMade("a+0", "1 0 -1 1 1 0", "0 -1 -1 0 1 0");
-        checkMade("a*0", "1 0 -1 1 1 0", "0 -1 -1 0 1 0");
-        checkMade("1*a", "0 -1 -1 0 1 0", "1 0 -1 1 1 0");
-        checkMade("a^0", "1 0 -1 1 1 0", "0 -1 -1 0 1 0");
-        checkMade("a^1", "1 0 -1 1 1 0");
-        checkMade("0^0", "0 -1 -1 0 1 0", "0 -1 -1 0 1 0");
-        checkMade("0^5", "0 -1 -1 0 1 0");
-        checkMade("a*1/3+b*2/3", "1 0 -1 1 1 0", "0 -1 -1 0 1 2", "3 0 1 1 10 2", "1 1 -1 1 1 0", "0 -1 -1 0 2 2",
+        checkParts("a+b*c", "1 0 -1 1 1 0", "1 1 -1 1 1 0", "1 2 -1 1 1 0", "3 1 2 2 10 0", "2 0 3 2 11 0");
+        checkParts("a-b", "1 0 -1 1 1 0", "1 1 -1 1 1 0", "0 -1 -1 0 1 0", "3 2 1 1 10 0", "2 0 3 1 11 0");
+        checkParts("--a^2", "1 0 -1 1 1 0", "4 0 2 2 18 0", "0 -1 -1 0 1 0", "3 2 1 2 27 0", "3 2 3 2 36 0");
+        checkParts("-2*a", "0 -1 -1 0 2 0", "0 -1 -1 0 1 0", "0 -1 -1 0 2 0", "1 0 -1 1 1 0", "3 2 3 1 11 0");
+        checkParts("2^3", "0 -1 -1 0 2 0", "0 -1 -1 0 4 0");
+        checkParts("3/4^2", "0 -1 -1 0 2 3", "0 -1 -1 0 4 5");
+        checkParts("1/2+1/2", "0 -1 -1 0 1 2", "0 -1 -1 0 1 0");
+        checkParts("2*1/2", "0 -1 -1 0 2 0", "0 -1 -1 0 1 2", "0 -1 -1 0 1 0");
+        checkParts("0+a", "0 -1 -1 0 1 0", "1 0 -1 1 1 0");
+        checkParts("a+0", "1 0 -1 1 1 0", "0 -1 -1 0 1 0");
+        checkParts("a*0", "1 0 -1 1 1 0", "0 -1 -1 0 1 0");
+        checkParts("1*a", "0 -1 -1 0 1 0", "1 0 -1 1 1 0");
+        checkParts("a^0", "1 0 -1 1 1 0", "0 -1 -1 0 1 0");
+        checkParts("a^1", "1 0 -1 1 1 0");
+        checkParts("0^0", "0 -1 -1 0 1 0", "0 -1 -1 0 1 0");
+        checkParts("0^5", "0 -1 -1 0 1 0");
+        checkParts("a*1/3+b*2/3", "1 0 -1 1 1 0", "0 -1 -1 0 1 2", "3 0 1 1 10 2", "1 1 -1 1 1 0", "0 -1 -1 0 2 2",
                 "3 3 4 1 11 2", "2 2 5 1 14 4");
-        checkMade("(a+1/3)^2", "1 0 -1 1 1 0", "0 -1 -1 0 1 2", "2 0 1 1 4 2", "4 2 2 2 24 4");
-        checkMade("(a^2)^3", "1 0 -1 1 1 0", "4 0 2 2 18 0", "4 1 3 6 78 0");
-        checkMade("(-1)^3*a", "0 -1 -1 0 1 0", "0 -1 -1 0 1 0", "1 0 -1 1 1 0", "3 1 2 1 10 0");
-        checkMade("a-(-1)*-1", "1 0 -1 1 1 0", "0 -1 -1 0 1 0", "0 -1 -1 0 1 0", "2 0 2 1 2 0");
+        checkParts("(a+1/3)^2", "1 0 -1 1 1 0", "0 -1 -1 0 1 2", "2 0 1 1 4 2", "4 2 2 2 24 4");
+        checkParts("(a^2)^3", "1 0 -1 1 1 0", "4 0 2 2 18 0", "4 1 3 6 78 0");
+        checkParts("(-1)^3*a", "0 -1 -1 0 1 0", "0 -1 -1 0 1 0", "1 0 -1 1 1 0", "3 1 2 1 10 0");
+        checkParts("a-(-1)*-1", "1 0 -1 1 1 0", "0 -1 -1 0 1 0", "0 -1 -1 0 1 0", "2 0 2 1 2 0");
         GradientDesk desk = new GradientDesk();
         due("0*a is 0", define(desk, "0*a", 0), 0);
         due("a*1 is a", define(desk, "a*1", 0), 1);
         due("a-0 is a", define(desk, "a-0", 0), 1);
         due("-0 is 0", define(desk, "-0", 0), 0);
         due("written", written(desk, 0), "0");
-    }
-
-    private static void checkMade(String text, String... parts) {
-        GradientDesk desk = new GradientDesk();
-        define(desk, text, 0);
-        due("made by " + text, desk.made(), parts.length);
-        for (int i = 0; i < Math.min(parts.length, desk.made()); i++) {
-            due("part " + i + " of " + text, look(desk, i), parts[i]);
-        }
     }
 
     private static void limits() {

@@ -17,6 +17,8 @@ public final class GradientDeskResultEdges extends Bench {
         gradientLeavesTheOthers();
         gradientAtZeros();
         gradientWithoutRoom();
+        gradientAtTheSizes();
+        shortAfterLong();
         alongNames();
         alongSteps();
         alongLeavesTheOthers();
@@ -177,6 +179,53 @@ public final class GradientDeskResultEdges extends Bench {
         full.gradient(0);
         due("where derive answers FULL", results(full, 0, 3), "35/1 0/1 7/1 5/1");
         due("made", full.made(), 200);
+    }
+
+    /** Denominators of 201 and 199 bits, so that those of the product and of the sum have 400. */
+    private static void gradientAtTheSizes() {
+        about("12: expressions with a size of 400");
+        BigInteger[] first = pow(ratio(1, 2), 200);
+        BigInteger[] second = pow(ratio(1, 2), 198);
+        GradientDesk desk = new GradientDesk();
+        define(desk, "a*(((1/2^9)^9)^2*(1/2^9)^4*1/2^2)", 0);
+        define(desk, "b*(((1/2^9)^9)^2*(1/2^9)^4)", 1);
+        due("d of a product", desk.part(define(desk, "A*B", 2), 5), 400);
+        due("d of a sum", desk.part(define(desk, "A+B", 3), 5), 400);
+        desk.set(0, 3, 5);
+        desk.set(1, -5, 7);
+        desk.gradient(2);
+        BigInteger[] both = mul(first, second);
+        due("the product", results(desk, 0, 3), show(mul(ratio(-3, 7), both)) + " " + show(mul(ratio(-5, 7), both)) + " "
+                + show(mul(ratio(3, 5), both)) + " 0/1");
+        desk.gradient(3);
+        due("the sum", results(desk, 0, 3), show(add(mul(ratio(3, 5), first), mul(ratio(-5, 7), second))) + " "
+                + show(first) + " " + show(second) + " 0/1");
+        define(desk, "1/2*a*(((2^9)^9)^4*(2^9)^6*2^3)", 4);
+        due("n of 400", desk.part(define(desk, "E", 5), 4), 400);
+        desk.along(4, 10, 0, 0);
+        due("it", results(desk, 4, 5), show(mul(ratio(3, 10), pow(ratio(2, 1), 381))) + " "
+                + show(mul(ratio(5, 1), pow(ratio(2, 1), 381))));
+    }
+
+    private static void shortAfterLong() {
+        about("12 and 13: nothing of a long number is left in a short one");
+        GradientDesk desk = new GradientDesk();
+        define(desk, "((3^9)^7)^4", 0);
+        define(desk, "((1/3^9)^7)^4", 1);
+        define(desk, "6/4", 2);
+        due("a number", written(desk, 2), "3/2");
+        for (int name = 0; name < 2; name++) {
+            desk.gradient(name);
+            desk.along(name, 0, 0, 0);
+            due("400 bits", desk.bits(0, name) + " " + desk.bits(4, name), "400 400");
+            define(desk, "a*b", 3);
+            desk.set(0, 6, 4);
+            desk.set(1, 2, 6);
+            desk.gradient(3);
+            desk.along(3, 6, 4, 0);
+            due("short ones", results(desk, 0, 5), "1/2 1/3 3/2 0/1 1/2 8/1");
+            due("no word is left", desk.word(0, name, 1) + " " + desk.word(4, name, 12), "0 0");
+        }
     }
 
     // ---- promise 13
