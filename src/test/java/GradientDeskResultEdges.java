@@ -225,6 +225,11 @@ public final class GradientDeskResultEdges extends Bench {
             desk.along(3, 6, 4, 0);
             due("short ones", results(desk, 0, 5), "1/2 1/3 3/2 0/1 1/2 8/1");
             due("no word is left", desk.word(0, name, 1) + " " + desk.word(4, name, 12), "0 0");
+            desk.gradient(name);
+            define(desk, "a^8", 3);
+            desk.set(0, 512 * 3, 512 * 5);
+            desk.gradient(3);
+            due("a power of a fraction that was not reduced", results(desk, 0, 3), "6561/390625 17496/78125 0/1 0/1");
         }
     }
 
