@@ -408,7 +408,7 @@ public final class GradientDesk {
             }
             for (int i = size - 1; i >= 0; i--) {
                 if (words[i] != other.words[i]) {
-                    return Integer.compareUnsigned(words[i], other.words[i]) < 0 ? -1 : 1;
+                    return (words[i] & WORD_MASK) < (other.words[i] & WORD_MASK) ? -1 : 1;
                 }
             }
             return 0;
